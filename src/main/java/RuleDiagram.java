@@ -394,9 +394,8 @@ public final class RuleDiagram {
 
         RuleReader(Text text) {
             pieces = new Pieces(text);
-            // One more than a list can hold: there the rules go that are too many, since a fault may stand behind them.
-            found = new Rule[MOST_RULES + 1];
-            for (int i = 0; i <= MOST_RULES; i++) {
+            found = new Rule[MOST_RULES];
+            for (int i = 0; i < MOST_RULES; i++) {
                 found[i] = new Rule();
             }
         }
@@ -410,7 +409,8 @@ public final class RuleDiagram {
             pieces.restart();
             int count = 0;
             for (int i = 0; i < MOST_SIGNS && !pieces.isEnd(); i++) {
-                if (!readRule(found[Math.min(count, MOST_RULES)])) {
+                // Too many rules are refused whole, but read on over the last one: a fault may stand behind them.
+                if (!readRule(found[Math.min(count, MOST_RULES - 1)])) {
                     return -1 - pieces.place();
                 }
                 count++;
