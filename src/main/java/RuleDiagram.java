@@ -408,7 +408,7 @@ public final class RuleDiagram {
         int readText() {
             pieces.restart();
             int count = 0;
-            for (int i = 0; i < MOST_SIGNS && !pieces.isEnd(); i++) {
+            while (count < MOST_SIGNS && !pieces.isEnd()) {
                 // Too many rules are refused whole, but read on over the last one: a fault may stand behind them.
                 if (!readRule(found[Math.min(count, MOST_RULES - 1)])) {
                     return -1 - pieces.place();
@@ -744,8 +744,8 @@ public final class RuleDiagram {
     }
 
     /**
-     * The diagram of a list. A table is named by the set of rules that agree with the values of the fields ahead of it:
-     * all else that could tell two tables apart has come out of the packet already.
+     * The diagram of a list. A table is named by the set of rules that agree with the values of the fields ahead of it,
+     * since values that agree with the same rules have the same table. Tables of different names may still be alike.
      */
     private static final class Diagram {
         private final RuleList list;
