@@ -7,7 +7,6 @@ final class CountTest {
         used();
         prune();
         pruneKeepsOrder();
-        wrongInputs();
         Check.end();
     }
 
@@ -62,22 +61,6 @@ final class CountTest {
         Check.same("count", x.count(0, 1), before);
         Check.same("room behind prune", Check.read(x, 0, "log;".repeat(5)), 5);
         Check.same("rules behind prune", Check.verdicts(x, 0), "10122222");
-    }
-
-    private static void wrongInputs() {
-        RuleDiagram x = Check.with("log;");
-        Check.fails("count(0, 3)", Check.ARGUMENT, () -> x.count(0, 3));
-        Check.fails("count(0, -1)", Check.ARGUMENT, () -> x.count(0, -1));
-        Check.fails("count(2, 0)", Check.BOUNDS, () -> x.count(2, 0));
-        Check.fails("count(-1, 3)", Check.BOUNDS, () -> x.count(-1, 3));
-        Check.fails("used(0, 1)", Check.ARGUMENT, () -> x.used(0, 1));
-        Check.fails("used(0, -1)", Check.ARGUMENT, () -> x.used(0, -1));
-        Check.fails("used(1, 0)", Check.ARGUMENT, () -> x.used(1, 0));
-        Check.fails("used(2, 0)", Check.BOUNDS, () -> x.used(2, 0));
-        Check.fails("used(-1, -1)", Check.BOUNDS, () -> x.used(-1, -1));
-        Check.fails("prune(2)", Check.BOUNDS, () -> x.prune(2));
-        Check.fails("prune(-1)", Check.BOUNDS, () -> x.prune(-1));
-        Check.same("rules behind faults", x.rules(0), 1);
     }
 
     private static void counts(String text, int deny, int allow, int log) {

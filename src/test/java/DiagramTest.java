@@ -3,7 +3,6 @@ final class DiagramTest {
     public static void main(String[] args) {
         diagrams();
         changes();
-        wrongInputs();
         Check.end();
     }
 
@@ -47,17 +46,6 @@ final class DiagramTest {
         Check.read(x, 0, "allow;");
         shows("one rule that is told no more", x, 0, 0, 0, 0, 0, 0);
         shows("the other list still", x, 1, 0, 0, 0, 1, 3);
-    }
-
-    private static void wrongInputs() {
-        RuleDiagram x = Check.with("log src 1;");
-        Check.fails("nodes(0, 4)", Check.ARGUMENT, () -> x.nodes(0, 4));
-        Check.fails("nodes(0, -1)", Check.ARGUMENT, () -> x.nodes(0, -1));
-        Check.fails("nodes(0, MIN)", Check.ARGUMENT, () -> x.nodes(0, Integer.MIN_VALUE));
-        Check.fails("nodes(2, 0)", Check.BOUNDS, () -> x.nodes(2, 0));
-        Check.fails("nodes(-1, 4)", Check.BOUNDS, () -> x.nodes(-1, 4));
-        Check.fails("edges(2)", Check.BOUNDS, () -> x.edges(2));
-        Check.fails("edges(-1)", Check.BOUNDS, () -> x.edges(-1));
     }
 
     private static void has(String text, int sources, int targets, int ports, int protocols, int edges) {

@@ -6,7 +6,6 @@ final class DifferenceTest {
         alike();
         different();
         changes();
-        wrongInputs();
         Check.end();
     }
 
@@ -46,15 +45,6 @@ final class DifferenceTest {
         Check.same("differing behind remove", x.differing(), ALL);
         Check.read(x, 1, "log src 0-9;");
         Check.same("witness behind read", x.witness(0), 10);
-    }
-
-    private static void wrongInputs() {
-        RuleDiagram x = Check.with("log;");
-        Check.fails("witness(4)", Check.ARGUMENT, () -> x.witness(4));
-        Check.fails("witness(-1)", Check.ARGUMENT, () -> x.witness(-1));
-        Check.fails("witness(MAX)", Check.ARGUMENT, () -> x.witness(Integer.MAX_VALUE));
-        RuleDiagram alike = new RuleDiagram();
-        Check.fails("witness(4) of lists that are alike", Check.ARGUMENT, () -> alike.witness(4));
     }
 
     /** Both ways round, since neither list is ahead of the other. */

@@ -8,7 +8,6 @@ final class GateTest {
         sameBothWays();
         oldestGoes();
         knownWithoutRules();
-        wrongInputs();
         Check.end();
     }
 
@@ -72,23 +71,6 @@ final class GateTest {
         passes(x, 0, "1 2 3 1", 3, "1 2 3 1;" + FREE.repeat(3));
         passes(x, 0, "1 2 4 1", 0, "1 2 3 1;" + FREE.repeat(3));
         Check.same("verdict of a known packet", x.verdict(0, 1, 2, 3, 1), 0);
-    }
-
-    private static void wrongInputs() {
-        RuleDiagram x = Check.with("allow;");
-        x.pass(0, 1, 2, 3, 1);
-        Check.fails("pass(2, 256, ..)", Check.BOUNDS, () -> x.pass(2, 256, 0, 0, 0));
-        Check.fails("pass(-1, ..)", Check.BOUNDS, () -> x.pass(-1, 2, 1, 3, 1));
-        Check.fails("pass(0, 256, ..)", Check.ARGUMENT, () -> x.pass(0, 256, 0, 0, 0));
-        Check.fails("pass(.., 4)", Check.ARGUMENT, () -> x.pass(0, 0, 0, 0, 4));
-        Check.same("connections behind faults", Check.connections(x), "1 2 3 1;" + FREE.repeat(3));
-        Check.fails("connection(0, 4)", Check.ARGUMENT, () -> x.connection(0, 4));
-        Check.fails("connection(0, -1)", Check.ARGUMENT, () -> x.connection(0, -1));
-        Check.fails("connection(9, 4)", Check.ARGUMENT, () -> x.connection(9, 4));
-        Check.fails("connection(-1, MIN)", Check.ARGUMENT, () -> x.connection(-1, Integer.MIN_VALUE));
-        for (int k : new int[] {-1, 1, 4, 9, Integer.MAX_VALUE, Integer.MIN_VALUE}) {
-            Check.same("connection(" + k + ", 0)", x.connection(k, 0), RuleDiagram.NONE);
-        }
     }
 
     private static void passes(RuleDiagram x, int list, String packet, int due, String connections) {

@@ -5,6 +5,10 @@ import java.util.Random;
 final class ModelTest {
     private static final int RUNS = 400;
     private static final int CALLS = 512;
+
+    /** A text of 240 signs, put four a call, and read. */
+    private static final int MOST_CALLS_A_STEP = 61;
+
     private static final String[] NAMES = {"src", "dst", "port", "proto"};
     private static final String[] VERDICTS = {"deny", "allow", "log"};
     private static final String[] PIECES = {"deny", "allow", "log", "src", "dst", "port", "proto", "any", "-", "/", ";",
@@ -22,10 +26,15 @@ final class ModelTest {
     }
 
     public static void main(String[] args) {
+        Check.sentence("An object is used for at most 512 calls after it has been made");
         for (int run = 0; run < RUNS; run++) {
             ModelTest test = new ModelTest(run);
-            while (test.calls < CALLS - 62) {
+            while (test.calls < CALLS - MOST_CALLS_A_STEP) {
                 test.step();
+            }
+            // One by one to the very last call that is promised.
+            while (test.calls < CALLS) {
+                test.look();
             }
         }
         Check.end();

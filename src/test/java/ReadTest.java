@@ -46,16 +46,16 @@ final class ReadTest {
     }
 
     private static void rulesOfTexts() {
-        reads("", 0, "");
-        reads(" \n ", 0, "");
-        reads("deny;", 1, "0 " + ANY);
-        reads("allow;", 1, "1 " + ANY);
-        reads("log;", 1, "2 " + ANY);
-        reads("\nlog ;\n allow\n; ", 2, "2 " + ANY + "1 " + ANY);
-        reads("log src 1 dst 2 port 3 proto 1;", 1, "2 1 1 2 2 3 3 1 1;");
-        reads("log proto1port3dst2src1;", 1, "2 1 1 2 2 3 3 1 1;");
-        reads("deny src any dst any port any proto any;log;", 2, "0 " + ANY + "2 " + ANY);
-        reads("deny dst any;allow dst 7;", 2, "0 " + ANY + "1 0 255 7 7 0 1023 0 3;");
+        Check.reads("", 0, "");
+        Check.reads(" \n ", 0, "");
+        Check.reads("deny;", 1, "0 " + ANY);
+        Check.reads("allow;", 1, "1 " + ANY);
+        Check.reads("log;", 1, "2 " + ANY);
+        Check.reads("\nlog ;\n allow\n; ", 2, "2 " + ANY + "1 " + ANY);
+        Check.reads("log src 1 dst 2 port 3 proto 1;", 1, "2 1 1 2 2 3 3 1 1;");
+        Check.reads("log proto1port3dst2src1;", 1, "2 1 1 2 2 3 3 1 1;");
+        Check.reads("deny src any dst any port any proto any;log;", 2, "0 " + ANY + "2 " + ANY);
+        Check.reads("deny dst any;allow dst 7;", 2, "0 " + ANY + "1 0 255 7 7 0 1023 0 3;");
         RuleDiagram x = Check.with("deny;allow;");
         Check.same("rules behind others", Check.read(x, 0, "log;deny;"), 2);
         Check.same("all rules", Check.verdicts(x, 0), "0120");
@@ -63,94 +63,94 @@ final class ReadTest {
     }
 
     private static void rangesOfTexts() {
-        reads("log src 0 dst 255 port 1023 proto 3;", 1, "2 0 0 255 255 1023 1023 3 3;");
-        reads("log src 0-255 dst 7-7 port 10 - 1023 proto 1\n-\n2;", 1, "2 0 255 7 7 10 1023 1 2;");
-        reads("log src 0007 port 0000-0009;", 1, "2 7 7 0 255 0 9 0 3;");
-        reads("log src 200/0 dst 200/8 port 1000/0 proto 3/0;", 1, "2 0 255 200 200 0 1023 0 3;");
-        reads("log src 200/1 dst 127/1 port 1000/10 proto 3/2;", 1, "2 128 255 0 127 1000 1000 3 3;");
-        reads("log src 77/4 dst 77 / 7 port 1000/5 proto 2/1;", 1, "2 64 79 76 77 992 1023 2 3;");
-        reads("log port 33/9 src 5/0008 ;", 1, "2 5 5 0 255 32 33 0 3;");
+        Check.reads("log src 0 dst 255 port 1023 proto 3;", 1, "2 0 0 255 255 1023 1023 3 3;");
+        Check.reads("log src 0-255 dst 7-7 port 10 - 1023 proto 1\n-\n2;", 1, "2 0 255 7 7 10 1023 1 2;");
+        Check.reads("log src 0007 port 0000-0009;", 1, "2 7 7 0 255 0 9 0 3;");
+        Check.reads("log src 200/0 dst 200/8 port 1000/0 proto 3/0;", 1, "2 0 255 200 200 0 1023 0 3;");
+        Check.reads("log src 200/1 dst 127/1 port 1000/10 proto 3/2;", 1, "2 128 255 0 127 1000 1000 3 3;");
+        Check.reads("log src 77/4 dst 77 / 7 port 1000/5 proto 2/1;", 1, "2 64 79 76 77 992 1023 2 3;");
+        Check.reads("log port 33/9 src 5/0008 ;", 1, "2 5 5 0 255 32 33 0 3;");
     }
 
     private static void wordFaults() {
-        faulty("alow;", 0);
-        faulty("Deny;", 0);
-        faulty("  denyy;", 2);
-        faulty("den y;", 0);
-        faulty(";", 0);
-        faulty(" ; ", 1);
-        faulty("5;", 0);
-        faulty("src 5;", 0);
-        faulty("any;", 0);
-        faulty("deny;;", 5);
-        faulty("deny;\tlog;", 5);
-        faulty("log,", 3);
-        faulty("log log;", 4);
-        faulty("log any;", 4);
-        faulty("log 5;", 4);
-        faulty("log srcc 5;", 4);
-        faulty("logsrc 5;", 0);
-        faulty("log srcany;", 4);
-        faulty("log src;", 7);
-        faulty("log src dst 5;", 8);
-        faulty("log src -5;", 8);
-        faulty("log src anyy;", 8);
-        faulty("log src 5 any;", 10);
-        faulty("log src any 5;", 12);
-        faulty("log src any-5;", 11);
-        faulty("log src 5 6;", 10);
-        faulty("log src 5--6;", 10);
-        faulty("log src 5-any;", 10);
-        faulty("log src 5/;", 10);
-        faulty("log src 5-6-7;", 11);
-        faulty("log src 5/6/7;", 11);
-        faulty("log src 5-6/7;", 11);
-        faulty("log src 5 + 6;", 10);
-        faulty("log src 5 src 6;", 10);
-        faulty("log src any src any;", 12);
-        faulty("log src 1 dst 2 port 3 proto 1 src 1;", 31);
-        faulty("log src 1 dst 2 port 3 proto 1 any;", 31);
-        faulty("log src 5;log dst 5;src 3;", 20);
-        faulty("log src 5:", 9);
-        faulty("log \rsrc 5;", 4);
+        Check.faulty("alow;", 0);
+        Check.faulty("Deny;", 0);
+        Check.faulty("  denyy;", 2);
+        Check.faulty("den y;", 0);
+        Check.faulty(";", 0);
+        Check.faulty(" ; ", 1);
+        Check.faulty("5;", 0);
+        Check.faulty("src 5;", 0);
+        Check.faulty("any;", 0);
+        Check.faulty("deny;;", 5);
+        Check.faulty("deny;\tlog;", 5);
+        Check.faulty("log,", 3);
+        Check.faulty("log log;", 4);
+        Check.faulty("log any;", 4);
+        Check.faulty("log 5;", 4);
+        Check.faulty("log srcc 5;", 4);
+        Check.faulty("logsrc 5;", 0);
+        Check.faulty("log srcany;", 4);
+        Check.faulty("log src;", 7);
+        Check.faulty("log src dst 5;", 8);
+        Check.faulty("log src -5;", 8);
+        Check.faulty("log src anyy;", 8);
+        Check.faulty("log src 5 any;", 10);
+        Check.faulty("log src any 5;", 12);
+        Check.faulty("log src any-5;", 11);
+        Check.faulty("log src 5 6;", 10);
+        Check.faulty("log src 5--6;", 10);
+        Check.faulty("log src 5-any;", 10);
+        Check.faulty("log src 5/;", 10);
+        Check.faulty("log src 5-6-7;", 11);
+        Check.faulty("log src 5/6/7;", 11);
+        Check.faulty("log src 5-6/7;", 11);
+        Check.faulty("log src 5 + 6;", 10);
+        Check.faulty("log src 5 src 6;", 10);
+        Check.faulty("log src any src any;", 12);
+        Check.faulty("log src 1 dst 2 port 3 proto 1 src 1;", 31);
+        Check.faulty("log src 1 dst 2 port 3 proto 1 any;", 31);
+        Check.faulty("log src 5;log dst 5;src 3;", 20);
+        Check.faulty("log src 5:", 9);
+        Check.faulty("log \rsrc 5;", 4);
     }
 
     private static void numberFaults() {
-        faulty("log src 256;", 8);
-        faulty("log dst 256;", 8);
-        faulty("log port 1024;", 9);
-        faulty("log proto 4;", 10);
-        faulty("log src 00001;", 8);
-        faulty("log port 99999999999;", 9);
-        faulty("log src 1-256;", 10);
-        faulty("log port 1-1024;", 11);
-        faulty("log proto 1-4;", 12);
-        faulty("log src 1-00002;", 10);
-        faulty("log src 5-4;", 10);
-        faulty("log src 5 - 4;", 12);
-        faulty("log src 300-4;", 8);
-        faulty("log src 5/9;", 10);
-        faulty("log dst 5/9;", 10);
-        faulty("log port 5/11;", 11);
-        faulty("log proto 1/3;", 12);
-        faulty("log src 256/1;", 8);
-        faulty("log src 5/00001;", 10);
-        faulty("log src 256 src;", 8);
+        Check.faulty("log src 256;", 8);
+        Check.faulty("log dst 256;", 8);
+        Check.faulty("log port 1024;", 9);
+        Check.faulty("log proto 4;", 10);
+        Check.faulty("log src 00001;", 8);
+        Check.faulty("log port 99999999999;", 9);
+        Check.faulty("log src 1-256;", 10);
+        Check.faulty("log port 1-1024;", 11);
+        Check.faulty("log proto 1-4;", 12);
+        Check.faulty("log src 1-00002;", 10);
+        Check.faulty("log src 5-4;", 10);
+        Check.faulty("log src 5 - 4;", 12);
+        Check.faulty("log src 300-4;", 8);
+        Check.faulty("log src 5/9;", 10);
+        Check.faulty("log dst 5/9;", 10);
+        Check.faulty("log port 5/11;", 11);
+        Check.faulty("log proto 1/3;", 12);
+        Check.faulty("log src 256/1;", 8);
+        Check.faulty("log src 5/00001;", 10);
+        Check.faulty("log src 256 src;", 8);
     }
 
     private static void endFaults() {
-        faulty("log", 3);
-        faulty("log ", 4);
-        faulty("log src", 7);
-        faulty("log src 5", 9);
-        faulty("log src 5 \n ", 12);
-        faulty("log src 5-", 10);
-        faulty("log src 5- ", 11);
-        faulty("log src 5/", 10);
-        faulty("log src any", 11);
-        faulty("log; deny", 9);
-        faulty(" ".repeat(237) + "log", 240);
-        faulty(" ".repeat(239) + "x", 239);
+        Check.faulty("log", 3);
+        Check.faulty("log ", 4);
+        Check.faulty("log src", 7);
+        Check.faulty("log src 5", 9);
+        Check.faulty("log src 5 \n ", 12);
+        Check.faulty("log src 5-", 10);
+        Check.faulty("log src 5- ", 11);
+        Check.faulty("log src 5/", 10);
+        Check.faulty("log src any", 11);
+        Check.faulty("log; deny", 9);
+        Check.faulty(" ".repeat(237) + "log", 240);
+        Check.faulty(" ".repeat(239) + "x", 239);
     }
 
     private static void tooManyRules() {
@@ -185,17 +185,5 @@ final class ReadTest {
         Check.same("too many", Check.read(x, 0, "allow;".repeat(7)), -1000);
         Check.same("the text is empty behind too many", x.put(0), 0);
         Check.same("the rules behind too many", Check.show(x, 0), shown);
-    }
-
-    private static void reads(String text, int due, String rules) {
-        RuleDiagram x = new RuleDiagram();
-        Check.same("read of '" + text + "'", Check.read(x, 1, text), due);
-        Check.same("rules of '" + text + "'", Check.show(x, 1), rules);
-    }
-
-    private static void faulty(String text, int fault) {
-        RuleDiagram x = new RuleDiagram();
-        Check.same("read of '" + text + "'", Check.read(x, 0, text), -1 - fault);
-        Check.same("rules of '" + text + "'", x.rules(0), 0);
     }
 }

@@ -4,7 +4,9 @@ import java.lang.management.ManagementFactory;
 /** All calls of a run live in one room that is never emptied: an object makes its rows once, and its calls make none. */
 final class RoomTest {
     private static final ThreadMXBean THREADS = (ThreadMXBean) ManagementFactory.getThreadMXBean();
-    private static final int CALLS = 512;
+
+    /** What is left of 512 calls when both lists have been read. */
+    private static final int CALLS = 250;
 
     private static RuleDiagram kept = new RuleDiagram();
 

@@ -12,12 +12,14 @@ final class WholeTest {
 
     private final RuleDiagram program;
     private final int list;
+    private final int[][] rules;
     private final int[] used = new int[9];
     private final int[] counts = new int[3];
 
     private WholeTest(RuleDiagram program, int list) {
         this.program = program;
         this.list = list;
+        rules = Check.rulesOf(program, list);
     }
 
     public static void main(String[] args) {
@@ -36,8 +38,8 @@ final class WholeTest {
     private int[] agreeing(int field, int values) {
         int[] sets = new int[values];
         for (int value = 0; value < values; value++) {
-            for (int i = 0; i < program.rules(list); i++) {
-                boolean agrees = value >= program.rule(list, i, 1 + 2 * field) && value <= program.rule(list, i, 2 + 2 * field);
+            for (int i = 0; i < rules.length; i++) {
+                boolean agrees = value >= rules[i][1 + 2 * field] && value <= rules[i][2 + 2 * field];
                 sets[value] |= agrees ? 1 << i : 0;
             }
         }
@@ -47,8 +49,8 @@ final class WholeTest {
     /** The verdict for each set of agreeing rules. */
     private char[] verdicts() {
         char[] verdicts = new char[256];
-        for (int set = 1; set < 1 << program.rules(list); set++) {
-            verdicts[set] = (char) program.rule(list, Integer.numberOfTrailingZeros(set), 0);
+        for (int set = 1; set < 1 << rules.length; set++) {
+            verdicts[set] = (char) rules[Integer.numberOfTrailingZeros(set)][0];
         }
         return verdicts;
     }
@@ -70,7 +72,7 @@ final class WholeTest {
                 }
             }
         }
-        for (int i = 0; i < program.rules(list); i++) {
+        for (int i = 0; i < rules.length; i++) {
             Check.same("used(" + list + ", " + i + ")", program.used(list, i), used[i]);
         }
         for (int verdict = 0; verdict < 3; verdict++) {
