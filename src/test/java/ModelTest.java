@@ -26,6 +26,7 @@ final class ModelTest {
     }
 
     public static void main(String[] args) {
+        fullest();
         Check.sentence("An object is used for at most 512 calls after it has been made");
         for (int run = 0; run < RUNS; run++) {
             ModelTest test = new ModelTest(run);
@@ -38,6 +39,29 @@ final class ModelTest {
             }
         }
         Check.end();
+    }
+
+    /** Both lists full, and no two ranges of a field end at the same value: the most rows that there can be. */
+    private static void fullest() {
+        ModelTest test = new ModelTest(-1);
+        for (int i = 0; i < 16; i++) {
+            int least = 1 + 2 * (i * 7 % 16);
+            String range = least + "-" + (254 - least);
+            test.write(VERDICTS[i % 3] + " src " + range + " dst " + range + " port " + range + " proto " + i % 4 + "-3;");
+            test.call("read", i % 2);
+        }
+        test.call("differing");
+        for (int i = 0; i < 4; i++) {
+            test.call("witness", i);
+        }
+        for (int list = 0; list < 2; list++) {
+            for (int i = 0; i < 8; i++) {
+                test.call("used", list, i);
+                test.call(i < 3 ? "count" : i < 7 ? "nodes" : "edges", list, i < 3 ? i : i - 3);
+            }
+            test.call("prune", list);
+            test.call("rules", list);
+        }
     }
 
     private void step() {

@@ -21,6 +21,7 @@ final class PromiseEdgeTest {
         verdict();
         first();
         count();
+        countAsRulesComeAndGo();
         nodes();
         edges();
         differing();
@@ -267,6 +268,21 @@ final class PromiseEdgeTest {
         counts("log src 1;".repeat(8), ALL / 256 * 255, 0, ALL / 256);
     }
 
+    private static void countAsRulesComeAndGo() {
+        Check.sentence("How many packets have a verdict by a list.");
+        RuleDiagram x = new RuleDiagram();
+        for (int size = 0; size < 8; size++) {
+            Check.same("count of " + size + " rules", x.count(0, 2), size * (ALL / 256));
+            Check.read(x, 0, "log src " + size + ";");
+        }
+        for (int size = 8; size > 0; size--) {
+            Check.same("count of " + size + " rules", x.count(0, 2), size * (ALL / 256));
+            Check.same("edges of " + size + " rules", x.edges(0), size == 8 ? 2 : 3);
+            x.remove(0, 0);
+        }
+        Check.same("count of none", x.count(0, 2), 0);
+    }
+
     private static void counts(String text, int... due) {
         RuleDiagram x = Check.with(text, text);
         for (int verdict = 0; verdict < 3; verdict++) {
@@ -340,6 +356,14 @@ final class PromiseEdgeTest {
         witnessed("deny;", "", "-1 -1 -1 -1");
         witnessed("log src 0/1;log src 128/1;", "log;", "-1 -1 -1 -1");
         witnessed(numbered(8), numbered(8), "-1 -1 -1 -1");
+        // As many ends of ranges as there can be, all different, and yet nothing to tell the lists apart.
+        StringBuilder one = new StringBuilder();
+        StringBuilder other = new StringBuilder();
+        for (int i = 0; i < 8; i++) {
+            one.append("deny src ").append(1 + 4 * i).append('-').append(200 - 4 * i).append(';');
+            other.append("deny src ").append(3 + 4 * i).append('-').append(198 - 4 * i).append(';');
+        }
+        witnessed(one.toString(), other.toString(), "-1 -1 -1 -1");
     }
 
     private static void witnessed(String one, String other, String due) {

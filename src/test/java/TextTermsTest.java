@@ -58,6 +58,13 @@ final class TextTermsTest {
         Check.faulty("log src anyz;", 8);
         Check.faulty("log src anydst 1;", 8);
         Check.faulty("log" + "g".repeat(236) + ";", 0);
+        for (String word : new String[] {"deny", "allow", "log"}) {
+            otherLetters("", word, ";");
+        }
+        for (String name : NAMES) {
+            otherLetters("log ", name, " 1;");
+        }
+        otherLetters("log src ", "any", ";");
         // The signs next to a and z are none, nor are capital letters: the word is over there.
         Check.faulty("log`;", 3);
         Check.faulty("log{;", 3);
@@ -68,6 +75,17 @@ final class TextTermsTest {
         // So it is at a digit.
         Check.faulty("log1;", 3);
         Check.reads("log src1dst2;", 1, "2 1 1 2 2 0 1023 0 3;");
+    }
+
+    /** A word of which one letter is another one, or is left out, is no word that can come there. */
+    private static void otherLetters(String head, String word, String tail) {
+        for (int i = 0; i < word.length(); i++) {
+            char other = word.charAt(i) == 'z' ? 'a' : (char) (word.charAt(i) + 1);
+            String front = head + word.substring(0, i);
+            String back = word.substring(i + 1) + tail;
+            Check.faulty(front + other + back, head.length());
+            Check.faulty(front + back, head.length());
+        }
     }
 
     private static void numbers() {
