@@ -8,6 +8,7 @@ final class RefusalTest {
     private static final int MAX = Check.MAX;
     private static final int[] NO_LIST = {-1, 2, 3, MIN, MAX};
     private static final int[] GREATEST = {255, 255, 1023, 3};
+    private static final String NOTHING = "A call that throws changes nothing.";
     private static final String[] STATES = {"empty", "begun", "full"};
 
     /** A call of the program on an object. */
@@ -27,6 +28,7 @@ final class RefusalTest {
     }
 
     public static void main(String[] args) {
+        Check.sentence(NOTHING);
         for (int state = 0; state < STATES.length; state++) {
             RefusalTest test = new RefusalTest(state);
             test.signsAbove();
@@ -86,7 +88,7 @@ final class RefusalTest {
         RuleDiagram x = made(state);
         String what = call + " of an object that is " + STATES[state];
         Check.fails(what, exception, () -> use.on(x));
-        Check.same("what is told behind " + what, told(x), due);
+        Check.same(NOTHING + " But what is told behind " + what, told(x), due);
     }
 
     private void signsAbove() {
