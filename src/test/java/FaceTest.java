@@ -1,8 +1,11 @@
+import java.io.IOException;
 import java.lang.reflect.Constructor;
 import java.lang.reflect.Field;
 import java.lang.reflect.Member;
 import java.lang.reflect.Method;
 import java.lang.reflect.Modifier;
+import java.nio.file.Files;
+import java.nio.file.Path;
 import java.util.Arrays;
 import java.util.TreeSet;
 
@@ -13,8 +16,9 @@ final class FaceTest {
         + "read(int), remove(int, int), rule(int, int, int), rules(int), swap(int, int), used(int, int), "
         + "verdict(int, int, int, int, int), witness(int)";
 
-    public static void main(String[] args) {
+    public static void main(String[] args) throws IOException {
         face();
+        headsAsInTheDocument();
         newObject();
         objectsAreApart();
         Check.end();
@@ -39,6 +43,22 @@ final class FaceTest {
         Constructor<?>[] constructors = RuleDiagram.class.getDeclaredConstructors();
         Check.same("constructors", constructors.length, 1);
         Check.same("its parameters", constructors[0].getParameterCount(), 0);
+    }
+
+    /** With the names of the parameters and what is thrown, which the document's face tells too. */
+    private static void headsAsInTheDocument() throws IOException {
+        String document = Files.readString(Path.of("..", "shared", "DOC.md"));
+        String program = Files.readString(Path.of("src", "main", "java", "RuleDiagram.java")).replaceAll("\\s+", " ");
+        int heads = 0;
+        for (String line : document.split("\n")) {
+            if (line.matches(" {4}public .*;")) {
+                heads++;
+                String head = line.trim().replaceAll(";$", "");
+                boolean isThere = program.contains(head + " {") || program.contains(head + ";");
+                Check.same("'" + head + "' stands in the program", isThere, true);
+            }
+        }
+        Check.same("heads in the document", heads, 19);
     }
 
     private static boolean isOpen(Member member) {
